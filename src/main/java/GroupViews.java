@@ -15,7 +15,7 @@ public final class GroupViews {
     private static final int WAS_SYNC = 2;
     private static final int WAS_VIEW = 2;
 
-    private static final int NOT_A_PROCESS = -1;
+    private static final int WRONG_PROCESS = -1;
 
     /**
      * In a line a message is its slot (view and number) and a sync is FIRST_SYNC + its change: the
@@ -47,7 +47,7 @@ public final class GroupViews {
 
     public int send(int p, int payload) {
         if (!isProcess(p)) {
-            return NOT_A_PROCESS;
+            return WRONG_PROCESS;
         }
         ProcessState sender = processes[p];
         if (sender.blocked) {
@@ -68,9 +68,9 @@ public final class GroupViews {
 
     public int change(int p, int set) {
         if (!isProcess(p)) {
-            return NOT_A_PROCESS;
+            return WRONG_PROCESS;
         }
-        if (!isFullSet(set) || !has(set, p)) {
+        if (!isNonEmptySet(set) || !has(set, p)) {
             return -2;
         }
         ProcessState changed = processes[p];
@@ -90,13 +90,13 @@ public final class GroupViews {
     }
 
     public int form(int set) {
-        if (!isFullSet(set)) {
+        if (!isNonEmptySet(set)) {
             return -2;
         }
         if (formed >= MOST_VIEWS) {
             return -3;
         }
-        if (!allAwait(set)) {
+        if (!canForm(set)) {
             return -4;
         }
         formed++;
@@ -112,7 +112,7 @@ public final class GroupViews {
 
     public int tell(int p, int v) {
         if (!isProcess(p)) {
-            return NOT_A_PROCESS;
+            return WRONG_PROCESS;
         }
         if (!isFormed(v) || !has(sets[v], p)) {
             return -2;
@@ -131,7 +131,7 @@ public final class GroupViews {
 
     public int carry(int p, int q) {
         if (!isLine(p, q)) {
-            return NOT_A_PROCESS;
+            return WRONG_PROCESS;
         }
         int packet = lines[lineIndex(p, q)].takeFirst();
         if (packet == NO_PACKET) {
@@ -147,7 +147,7 @@ public final class GroupViews {
 
     public int step(int p) {
         if (!isProcess(p)) {
-            return NOT_A_PROCESS;
+            return WRONG_PROCESS;
         }
         ProcessState stepping = processes[p];
         if (!stepping.blocked) {
@@ -181,7 +181,7 @@ public final class GroupViews {
     }
 
     public int view(int p) {
-        return isProcess(p) ? processes[p].view : NOT_A_PROCESS;
+        return isProcess(p) ? processes[p].view : WRONG_PROCESS;
     }
 
     public int members(int v) {
@@ -197,37 +197,37 @@ public final class GroupViews {
     }
 
     public int pending(int p) {
-        return isProcess(p) ? processes[p].pending : NOT_A_PROCESS;
+        return isProcess(p) ? processes[p].pending : WRONG_PROCESS;
     }
 
     public int changes(int p) {
-        return isProcess(p) ? processes[p].lastChange : NOT_A_PROCESS;
+        return isProcess(p) ? processes[p].lastChange : WRONG_PROCESS;
     }
 
     public int sent(int p) {
-        return isProcess(p) ? processes[p].sent : NOT_A_PROCESS;
+        return isProcess(p) ? processes[p].sent : WRONG_PROCESS;
     }
 
     public int delivered(int p, int q) {
         if (!isProcess(p) || !isProcess(q)) {
-            return NOT_A_PROCESS;
+            return WRONG_PROCESS;
         }
         return countOf(processes[p].delivered, q);
     }
 
     public int known(int p, int q) {
         if (!isProcess(p) || !isProcess(q)) {
-            return NOT_A_PROCESS;
+            return WRONG_PROCESS;
         }
         return processes[p].messagesKnownOf(q);
     }
 
     public int waiting(int p, int q) {
-        return isLine(p, q) ? lines[lineIndex(p, q)].length() : NOT_A_PROCESS;
+        return isLine(p, q) ? lines[lineIndex(p, q)].length() : WRONG_PROCESS;
     }
 
     /** Whether each process of the set is open and the set lies within its latest change's set. */
-    private boolean allAwait(int set) {
+    private boolean canForm(int set) {
         for (int p = 0; p < PROCESSES; p++) {
             if (has(set, p) && !(processes[p].open && (set & ~processes[p].changeSet) == 0)) {
                 return false;
@@ -336,7 +336,7 @@ public final class GroupViews {
         return isProcess(p) && isProcess(q) && p != q;
     }
 
-    private static boolean isFullSet(int set) {
+    private static boolean isNonEmptySet(int set) {
         return set >= 1 && set <= GREATEST_SET;
     }
 

@@ -3,6 +3,7 @@ public final class CarryTest {
     public static void main(String[] args) {
         carriesInOrder();
         syncBringsTheMessagesOfItsCut();
+        syncBringsMessagesOfEachProcess();
         syncOfViewZeroBringsNone();
         carriesWhatIsKnown();
         keepsMessagesOfALaterView();
@@ -59,6 +60,21 @@ public final class CarryTest {
         Checks.drain(x, 0, 2);
         Checks.due("known(2, 0)", x.known(2, 0), 2);
         Checks.due("carry(0, 2)", x.carry(0, 2), 0);
+    }
+
+    private static void syncBringsMessagesOfEachProcess() {
+        for (int r = 0; r < 3; r++) {
+            GroupViews x = Checks.inView(15);
+            x.send(r, 5);
+            Checks.drain(x, r, 3);
+            x.step(3);
+            x.change(3, 15);
+            int receiver = r == 0 ? 1 : 0;
+            Checks.due("carry(3, receiver)", x.carry(3, receiver), 2);
+            for (int q = 0; q < 4; q++) {
+                Checks.due("known of " + q, x.known(receiver, q), q == r ? 1 : 0);
+            }
+        }
     }
 
     private static void syncOfViewZeroBringsNone() {

@@ -4,8 +4,10 @@ public final class StepTest {
         takesTheLeastSender();
         deliversInNumberOrder();
         waitsForTheVector();
+        waitsForEachPlaceOfTheVector();
         blockedWithoutPendingDoesNothing();
         waitsForTheSyncs();
+        remembersAnEarlierSync();
         awaitsOnlyThoseInBothViews();
         deliversUpToTheGreatestCut();
         leavesWhatIsBeyondTheLimits();
@@ -73,6 +75,24 @@ public final class StepTest {
         Checks.due("own first", x.event(3, 3), 30);
     }
 
+    private static void waitsForEachPlaceOfTheVector() {
+        for (int r = 0; r < 3; r++) {
+            GroupViews x = Checks.inView(15);
+            x.send(r, 5);
+            Checks.drain(x, r, 3);
+            x.step(3);
+            x.send(3, 6);
+            int receiver = r == 0 ? 1 : 0;
+            x.carry(3, receiver);
+            Checks.due("3's message waits for that of " + r, x.step(receiver), 0);
+            x.carry(r, receiver);
+            Checks.due("step", x.step(receiver), 1);
+            Checks.due("payload", x.event(receiver, 3), 5);
+            Checks.due("step", x.step(receiver), 1);
+            Checks.due("payload", x.event(receiver, 3), 6);
+        }
+    }
+
     private static void blockedWithoutPendingDoesNothing() {
         GroupViews x = Checks.inView(3);
         x.send(0, 1);
@@ -100,6 +120,20 @@ public final class StepTest {
         Checks.due("ready", x.step(0), 1);
         Checks.due("install", x.step(0), 2);
         Checks.due("1 knows its own alone", x.step(1), 0);
+    }
+
+    /** 0 changes once more after view 2 was formed: 1 goes into view 2 by the earlier sync. */
+    private static void remembersAnEarlierSync() {
+        GroupViews x = Checks.inView(3);
+        Checks.changeAll(x, 3);
+        x.form(3);
+        Checks.tellAll(x, 3, 2);
+        x.change(0, 3);
+        Checks.drain(x, 0, 1);
+        Checks.due("1 installs", x.step(1), 2);
+        Checks.due("companions", x.event(1, 3), 3);
+        Checks.drain(x, 1, 0);
+        Checks.due("0 has no pending view any more", x.step(0), 0);
     }
 
     private static void awaitsOnlyThoseInBothViews() {
