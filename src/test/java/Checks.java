@@ -1,5 +1,8 @@
 /** What the tests share: counting wrong answers, and bringing processes into a view. */
 final class Checks {
+    static final int[] NO_PROCESS = {-1, 4, 5, Integer.MIN_VALUE, Integer.MAX_VALUE};
+    static final int[] NO_SET = {0, -1, 16, 17, 31, Integer.MIN_VALUE, Integer.MAX_VALUE};
+
     private static int wrong = 0;
 
     private Checks() {

@@ -4,7 +4,11 @@ public final class EventTest {
         tellsAMessage();
         tellsAView();
         keepsTheLatestThatDidSomething();
-        answersZero();
+        tellsAnyPayload();
+        tellsAMessageAfterAView();
+        zeroIfThereWasNone();
+        zeroIfThereIsNoSuchProcess();
+        zeroIfThereIsNoSuchPlace();
         Checks.end();
     }
 
@@ -57,16 +61,60 @@ public final class EventTest {
         event(x, 2, new int[] {2, 1, 4, 4});
     }
 
-    private static void answersZero() {
+    /** "0 if there was none": also when something was sent, carried or changed. */
+    private static void zeroIfThereWasNone() {
+        GroupViews x = new GroupViews();
+        event(x, 0, new int[] {0, 0, 0, 0});
+        x.send(0, 6);
+        x.change(1, 3);
+        x.carry(1, 0);
+        Checks.due("step(1) does nothing", x.step(1), 0);
+        event(x, 0, new int[] {0, 0, 0, 0});
+        event(x, 1, new int[] {0, 0, 0, 0});
+        Checks.due("step(0)", x.step(0), 1);
+        event(x, 0, new int[] {1, 0, 1, 6});
+        event(x, 1, new int[] {0, 0, 0, 0});
+    }
+
+    /** "or p is not 0 .. 3" */
+    private static void zeroIfThereIsNoSuchProcess() {
         GroupViews x = Checks.inView(15);
-        Checks.due("event(-1, 0)", x.event(-1, 0), 0);
-        Checks.due("event(4, 0)", x.event(4, 0), 0);
-        Checks.due("event(0, -1)", x.event(0, -1), 0);
-        Checks.due("event(0, 4)", x.event(0, 4), 0);
-        Checks.due("event(0, MAX)", x.event(0, Integer.MAX_VALUE), 0);
-        Checks.due("event(MIN, 0)", x.event(Integer.MIN_VALUE, 0), 0);
-        GroupViews y = new GroupViews();
-        y.send(0, 6);
-        event(y, 0, new int[] {0, 0, 0, 0});
+        for (int p : Checks.NO_PROCESS) {
+            event(x, p, new int[] {0, 0, 0, 0});
+        }
+    }
+
+    /** "or i is not 0 .. 3" */
+    private static void zeroIfThereIsNoSuchPlace() {
+        int[] noPlace = {-1, 4, 5, 8, Integer.MIN_VALUE, Integer.MAX_VALUE};
+        GroupViews x = Checks.inView(15);
+        x.send(3, 6);
+        x.step(3);
+        for (int p = 0; p < 4; p++) {
+            for (int i : noPlace) {
+                Checks.due("event(" + p + ", " + i + ")", x.event(p, i), 0);
+            }
+        }
+        Checks.due("event(9, 9)", x.event(9, 9), 0);
+    }
+
+    /** A payload can be any int, also one that looks like an answer that tells of nothing. */
+    private static void tellsAnyPayload() {
+        int[] payloads = {0, -1, Integer.MIN_VALUE, Integer.MAX_VALUE};
+        GroupViews x = new GroupViews();
+        for (int i = 0; i < 4; i++) {
+            x.send(0, payloads[i]);
+            x.step(0);
+            event(x, 0, new int[] {1, 0, i + 1, payloads[i]});
+        }
+    }
+
+    /** A later event of the other kind leaves nothing of the earlier one. */
+    private static void tellsAMessageAfterAView() {
+        GroupViews x = Checks.inView(15);
+        event(x, 0, new int[] {2, 1, 15, 1});
+        x.send(0, 0);
+        x.step(0);
+        event(x, 0, new int[] {1, 0, 1, 0});
     }
 }

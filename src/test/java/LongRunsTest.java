@@ -6,9 +6,6 @@ import java.util.Random;
 public final class LongRunsTest {
     private static final int RUNS = 4000;
     private static final int CALLS = 512;
-    private static final String[] NAMES = {
-        "send", "change", "form", "tell", "carry", "step", "event", "view", "members", "start",
-        "blocked", "pending", "changes", "sent", "delivered", "known", "waiting"};
     private static final int CHANGE = 1;
     private static final int FORM = 2;
     private static final int TELL = 3;
@@ -17,7 +14,7 @@ public final class LongRunsTest {
     private static final int[] SHARES = {20, 3, 2, 8, 34, 34, 8, 2, 2, 3, 2, 2, 2, 2, 4, 5, 3};
 
     /** How often each kind of answer came, to see that the runs reach what they should. */
-    private static final int[][] REACHED = new int[NAMES.length][40];
+    private static final int[][] REACHED = new int[Calls.NAMES.length][40];
 
     public static void main(String[] args) {
         for (int run = 1; run <= RUNS; run++) {
@@ -49,10 +46,9 @@ public final class LongRunsTest {
                 a = planned[1];
                 b = kind == TELL ? newest(model) : planned[2];
             }
-            int got = ask(x, kind, a, b);
-            int want = ask(model, kind, a, b);
-            Checks.due("run " + run + ", call " + call + ": " + NAMES[kind] + "(" + a + ", " + b + ")",
-                got, want);
+            int got = Calls.ask(x, kind, a, b);
+            int want = Calls.ask(model, kind, a, b);
+            Checks.due("run " + run + ", call " + call + ": " + Calls.textOf(kind, a, b), got, want);
             if (got != want) {
                 return;
             }
@@ -112,7 +108,7 @@ public final class LongRunsTest {
     }
 
     private static int first(Random random, int kind, int favourite, Model model) {
-        switch (NAMES[kind]) {
+        switch (Calls.NAMES[kind]) {
             case "form":
                 return set(random, favourite);
             case "members":
@@ -124,7 +120,7 @@ public final class LongRunsTest {
     }
 
     private static int second(Random random, int kind, int favourite, Model model, int p) {
-        switch (NAMES[kind]) {
+        switch (Calls.NAMES[kind]) {
             case "send":
                 return random.nextInt();
             case "change":
@@ -139,58 +135,14 @@ public final class LongRunsTest {
         }
     }
 
-    private static int ask(GroupViews x, int kind, int a, int b) {
-        switch (NAMES[kind]) {
-            case "send": return x.send(a, b);
-            case "change": return x.change(a, b);
-            case "form": return x.form(a);
-            case "tell": return x.tell(a, b);
-            case "carry": return x.carry(a, b);
-            case "step": return x.step(a);
-            case "event": return x.event(a, b);
-            case "view": return x.view(a);
-            case "members": return x.members(a);
-            case "start": return x.start(a, b);
-            case "blocked": return x.blocked(a) ? 1 : 0;
-            case "pending": return x.pending(a);
-            case "changes": return x.changes(a);
-            case "sent": return x.sent(a);
-            case "delivered": return x.delivered(a, b);
-            case "known": return x.known(a, b);
-            default: return x.waiting(a, b);
-        }
-    }
-
-    private static int ask(Model x, int kind, int a, int b) {
-        switch (NAMES[kind]) {
-            case "send": return x.send(a, b);
-            case "change": return x.change(a, b);
-            case "form": return x.form(a);
-            case "tell": return x.tell(a, b);
-            case "carry": return x.carry(a, b);
-            case "step": return x.step(a);
-            case "event": return x.event(a, b);
-            case "view": return x.view(a);
-            case "members": return x.members(a);
-            case "start": return x.start(a, b);
-            case "blocked": return x.blocked(a);
-            case "pending": return x.pending(a);
-            case "changes": return x.changes(a);
-            case "sent": return x.sent(a);
-            case "delivered": return x.delivered(a, b);
-            case "known": return x.known(a, b);
-            default: return x.waiting(a, b);
-        }
-    }
-
     private static void lookAtReach() {
         int[][] answers = {
             {-3, -2, -1, 1, 2, 3, 4}, {-3, -2, -1, 1, 15}, {-4, -3, -2, 1, 15}, {-4, -3, -2, -1, 0},
             {-1, 0, 1, 2}, {-1, 0, 1, 2}, {0, 1, 2}, {-1, 0, 1, 10}, {0, 1, 15}, {0, 1, 10}, {0, 1},
             {-1, 0, 1, 10}, {-1, 0, 1, 15}, {-1, 0, 4}, {-1, 0, 4}, {-1, 0, 4}, {-1, 0, 10}};
-        for (int kind = 0; kind < NAMES.length; kind++) {
+        for (int kind = 0; kind < Calls.NAMES.length; kind++) {
             for (int answer : answers[kind]) {
-                Checks.due("the runs reach " + answer + " of " + NAMES[kind],
+                Checks.due("the runs reach " + answer + " of " + Calls.NAMES[kind],
                     REACHED[kind][answer + 4] > 0, true);
             }
         }

@@ -1,7 +1,5 @@
 /** Promises 9 to 18: the calls that only read. */
 public final class ReadingsTest {
-    private static final int[] NO_PROCESS = {-1, 4, 5, Integer.MIN_VALUE, Integer.MAX_VALUE};
-
     public static void main(String[] args) {
         view();
         members();
@@ -13,6 +11,9 @@ public final class ReadingsTest {
         delivered();
         known();
         waiting();
+        viewAndPendingReachFifteen();
+        countsReachFour();
+        knownIsOfThePresentViewAlone();
         readingChangesNothing();
         Checks.end();
     }
@@ -25,7 +26,7 @@ public final class ReadingsTest {
         }
         Checks.changeAll(x, 6);
         Checks.due("view(1) is the old one while it changes", x.view(1), 1);
-        for (int p : NO_PROCESS) {
+        for (int p : Checks.NO_PROCESS) {
             Checks.due("view(" + p + ")", x.view(p), -1);
         }
     }
@@ -59,8 +60,9 @@ public final class ReadingsTest {
         }
         x.change(1, 6);
         Checks.due("a later change leaves it", x.start(1, 1), 2);
-        for (int p : NO_PROCESS) {
+        for (int p : Checks.NO_PROCESS) {
             Checks.due("start(1, " + p + ")", x.start(1, p), 0);
+            Checks.due("start(" + p + ", " + p + ")", x.start(p, p), 0);
         }
     }
 
@@ -76,7 +78,7 @@ public final class ReadingsTest {
         Checks.due("blocked(3) when installed", x.blocked(3), false);
         x.change(0, 1);
         x.change(3, 8);
-        for (int p : NO_PROCESS) {
+        for (int p : Checks.NO_PROCESS) {
             Checks.due("blocked(" + p + ")", x.blocked(p), false);
         }
     }
@@ -91,7 +93,7 @@ public final class ReadingsTest {
         Checks.due("pending(1)", x.pending(1), 0);
         x.step(0);
         Checks.due("pending(0) when installed", x.pending(0), 0);
-        for (int p : NO_PROCESS) {
+        for (int p : Checks.NO_PROCESS) {
             Checks.due("pending(" + p + ")", x.pending(p), -1);
         }
     }
@@ -103,7 +105,7 @@ public final class ReadingsTest {
         x.change(2, 3);
         Checks.due("changes(2)", x.changes(2), 2);
         Checks.due("changes(1)", x.changes(1), 0);
-        for (int p : NO_PROCESS) {
+        for (int p : Checks.NO_PROCESS) {
             Checks.due("changes(" + p + ")", x.changes(p), -1);
         }
     }
@@ -119,7 +121,7 @@ public final class ReadingsTest {
         Checks.due("sent(0)", x.sent(0), 0);
         x.change(1, 15);
         Checks.due("sent(1) when blocked", x.sent(1), 4);
-        for (int p : NO_PROCESS) {
+        for (int p : Checks.NO_PROCESS) {
             Checks.due("sent(" + p + ")", x.sent(p), -1);
         }
     }
@@ -139,9 +141,10 @@ public final class ReadingsTest {
             Checks.due("delivered(2, " + q + ")", x.delivered(2, q), q + 1);
             Checks.due("delivered(1, " + q + ")", x.delivered(1, q), 0);
         }
-        for (int p : NO_PROCESS) {
+        for (int p : Checks.NO_PROCESS) {
             Checks.due("delivered(" + p + ", 0)", x.delivered(p, 0), -1);
             Checks.due("delivered(0, " + p + ")", x.delivered(0, p), -1);
+            Checks.due("delivered(" + p + ", 4)", x.delivered(p, 4), -1);
         }
     }
 
@@ -159,9 +162,10 @@ public final class ReadingsTest {
         Checks.due("known(0, 3)", x.known(0, 3), 0);
         Checks.due("known(3, 1)", x.known(3, 1), 0);
         Checks.due("known(1, 1)", x.known(1, 1), 0);
-        for (int p : NO_PROCESS) {
+        for (int p : Checks.NO_PROCESS) {
             Checks.due("known(" + p + ", 0)", x.known(p, 0), -1);
             Checks.due("known(0, " + p + ")", x.known(0, p), -1);
+            Checks.due("known(" + p + ", 4)", x.known(p, 4), -1);
         }
     }
 
@@ -178,11 +182,67 @@ public final class ReadingsTest {
         x.carry(0, 2);
         Checks.due("waiting(0, 2)", x.waiting(0, 2), 1);
         Checks.due("waiting(0, 1)", x.waiting(0, 1), 2);
-        for (int p : NO_PROCESS) {
+        for (int p : Checks.NO_PROCESS) {
             Checks.due("waiting(" + p + ", 0)", x.waiting(p, 0), -1);
             Checks.due("waiting(0, " + p + ")", x.waiting(0, p), -1);
             Checks.due("waiting(" + p + ", " + p + ")", x.waiting(p, p), -1);
         }
+    }
+
+    private static void viewAndPendingReachFifteen() {
+        GroupViews x = new GroupViews();
+        for (int v = 1; v <= 15; v++) {
+            x.change(3, 8);
+            Checks.due("changes(3)", x.changes(3), v);
+            x.form(8);
+            Checks.due("members(" + v + ")", x.members(v), 8);
+            Checks.due("start(" + v + ", 3)", x.start(v, 3), v);
+            x.tell(3, v);
+            Checks.due("pending(3)", x.pending(3), v);
+            Checks.due("view(3)", x.view(3), v - 1);
+            x.step(3);
+            Checks.due("pending(3)", x.pending(3), 0);
+            Checks.due("view(3)", x.view(3), v);
+        }
+    }
+
+    private static void countsReachFour() {
+        for (int p = 0; p < 4; p++) {
+            GroupViews x = new GroupViews();
+            for (int n = 1; n <= 4; n++) {
+                x.send(p, n);
+                Checks.due("sent(p)", x.sent(p), n);
+                Checks.due("known(p, p)", x.known(p, p), n);
+                Checks.due("delivered(p, p)", x.delivered(p, p), n - 1);
+                x.step(p);
+                Checks.due("delivered(p, p)", x.delivered(p, p), n);
+            }
+            x.send(p, 5);
+            x.step(p);
+            Checks.due("sent(p)", x.sent(p), 4);
+            Checks.due("known(p, p)", x.known(p, p), 4);
+            Checks.due("delivered(p, p)", x.delivered(p, p), 4);
+        }
+    }
+
+    /** "in p's present view": not those of the view before it, nor those of the one after it. */
+    private static void knownIsOfThePresentViewAlone() {
+        GroupViews x = Checks.inView(3);
+        x.send(0, 1);
+        x.send(0, 2);
+        x.carry(0, 1);
+        Checks.due("known(1, 0)", x.known(1, 0), 1);
+        Checks.changeAll(x, 3);
+        x.form(3);
+        Checks.tellAll(x, 3, 2);
+        x.carry(1, 0);
+        Checks.due("0 installs view 2", Checks.stepUntilView(x, 0), true);
+        Checks.due("known(0, 0) in view 2", x.known(0, 0), 0);
+        x.send(0, 3);
+        Checks.drain(x, 0, 1);
+        Checks.due("known(1, 0) in view 1 still", x.known(1, 0), 2);
+        Checks.due("1 installs view 2", Checks.stepUntilView(x, 1), true);
+        Checks.due("known(1, 0) in view 2", x.known(1, 0), 1);
     }
 
     private static void readingChangesNothing() {

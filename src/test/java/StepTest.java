@@ -15,6 +15,7 @@ public final class StepTest {
         limitsAreOfCompanionsAlone();
         installingBeginsAnew();
         deliversFourInViewFour();
+        doesAllInViewFifteen();
         refuses();
         Checks.end();
     }
@@ -284,6 +285,33 @@ public final class StepTest {
             Checks.due("payload", x.event(1, 3), n);
         }
         Checks.due("step(1)", x.step(1), 2);
+    }
+
+    /** The last view, of all processes, with all messages that it can have. */
+    private static void doesAllInViewFifteen() {
+        GroupViews x = new GroupViews();
+        for (int v = 1; v <= 14; v++) {
+            x.change(0, 1);
+            x.form(1);
+        }
+        Checks.due("the last view", Checks.install(x, 15), 15);
+        for (int p = 0; p < 4; p++) {
+            Checks.due("nothing to do yet", x.step(p), 0);
+            for (int n = 1; n <= 4; n++) {
+                Checks.due("send(" + p + ")", x.send(p, 10 * p + n), n);
+            }
+        }
+        Checks.drain(x, 0, 3);
+        Checks.drain(x, 1, 3);
+        Checks.drain(x, 2, 3);
+        for (int q = 0; q < 4; q++) {
+            for (int n = 1; n <= 4; n++) {
+                Checks.due("step(3)", x.step(3), 1);
+                Checks.due("payload", x.event(3, 3), 10 * q + n);
+            }
+        }
+        Checks.due("nothing more to do", x.step(3), 0);
+        Checks.due("view(3)", x.view(3), 15);
     }
 
     private static void refuses() {
